@@ -300,12 +300,14 @@ public final class IceBells {
         trial.copyFrom(now);
         int count = commandText.commandCount;
         for (int i = 0; i < count; i++) {
-            char fault = trial.tryCommand(commandText.commands[i]);
+            Command command = commandText.commands[i];
+            char fault = trial.commandFault(command);
             if (fault != FINE) {
                 failedCommand = i;
                 failureKind = fault;
                 throw new IllegalStateException("a command fails");
             }
+            trial.carryOut(command);
         }
         history.remember(now);
         now.copyFrom(trial);
@@ -562,15 +564,7 @@ public final class IceBells {
             return pitch;
         }
 
-        char tryCommand(Command command) {
-            char fault = commandFault(command);
-            if (fault == FINE) {
-                carryOut(command);
-            }
-            return fault;
-        }
-
-        private char commandFault(Command command) {
+        char commandFault(Command command) {
             int[] n = command.numbers;
             switch (command.kind) {
                 case LAKE:
@@ -590,7 +584,7 @@ public final class IceBells {
             }
         }
 
-        private void carryOut(Command command) {
+        void carryOut(Command command) {
             int[] n = command.numbers;
             switch (command.kind) {
                 case LAKE:

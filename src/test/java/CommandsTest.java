@@ -15,6 +15,7 @@ public final class CommandsTest {
     public static void main(String[] args) {
         appending();
         everyCommand();
+        digits();
         numbersOfThreeDigits();
         manyCommands();
         errorPositions();
@@ -68,6 +69,26 @@ public final class CommandsTest {
         CHECKS.due(41, "run() of strike", 1, Checks.runText(x, "strike 00"));
         CHECKS.due(41, "pealCount()", 1, x.pealCount());
         CHECKS.due(41, "pealKind(0)", 's', x.pealKind(0));
+    }
+
+    private static void digits() {
+        IceBells x = new IceBells();
+        CHECKS.due(41, "run()", 3, Checks.runText(x, "lake 100;lake 100;lake 100"));
+        CHECKS.due(41, "run()", 3, Checks.runText(x, "freeze 2 10 -3;freeze 2 20 -4;freeze 1 5 -1"));
+        CHECKS.due(41, "layerCount(2)", 2, x.layerCount(2));
+        CHECKS.due(41, "layerCount(1)", 1, x.layerCount(1));
+        CHECKS.due(41, "run()", 1, Checks.runText(x, "strike 21"));
+        CHECKS.due(41, "pealLake(0)", 2, x.pealLake(0));
+        CHECKS.due(41, "pealPitch(0)", 9, x.pealPitch(0));
+        CHECKS.due(41, "run()", 3, Checks.runText(x, "window 5-6;window 7-8;window 9-9"));
+        CHECKS.due(41, "run()", 1, Checks.runText(x, "open 1"));
+        CHECKS.due(41, "isInWindow(7)", false, x.isInWindow(7));
+        CHECKS.due(41, "isInWindow(9)", true, x.isInWindow(9));
+        CHECKS.due(41, "windowCount()", 2, x.windowCount());
+        failure(x, "strike 12", 0, 'b');
+        failure(x, "strike 31", 0, 'b');
+        failure(x, "freeze 3 1 0", 0, 'b');
+        failure(x, "open 2", 0, 'b');
     }
 
     private static void numbersOfThreeDigits() {

@@ -7,6 +7,7 @@ public final class LakesTest {
         lakes();
         lakeRefusals();
         layers();
+        newLayersHaveNoStrain();
         freezeRefusals();
         freezeOrderOfExceptions();
         halfOfTheDepth();
@@ -78,6 +79,18 @@ public final class LakesTest {
         CHECKS.due(9, "strain(1, 2)", 12, x.strain(1, 2));
         CHECKS.due(3, "freeze(1, 5, -5)", 4, x.freeze(1, 5, -5));
         CHECKS.due(9, "strain(1, 3) of a layer that has just grown", 0, x.strain(1, 3));
+    }
+
+    private static void newLayersHaveNoStrain() {
+        IceBells x = new IceBells();
+        x.addLake(100);
+        x.freeze(0, 1, 0);
+        x.freeze(0, 20, -20);
+        x.setAir(20);
+        x.pass(1);
+        CHECKS.due(9, "strain(0, 0) of the layer that was beneath", 19, x.strain(0, 0));
+        CHECKS.due(3, "freeze(0, 3, -3)", 2, x.freeze(0, 3, -3));
+        CHECKS.due(9, "strain(0, 1)", 0, x.strain(0, 1));
     }
 
     private static void freezeRefusals() {

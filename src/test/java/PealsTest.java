@@ -11,6 +11,7 @@ public final class PealsTest {
         onlyTheLatestSixteen();
         missingPeals();
         echoes();
+        echoesOfPitchZero();
         cracksOfLakes();
         ranks();
         totals();
@@ -159,6 +160,29 @@ public final class PealsTest {
             x.strike(0, 0);
         }
         echoes(x, 16 * 15 / 2, 1);
+    }
+
+    private static void echoesOfPitchZero() {
+        IceBells x = oneLake();
+        x.freeze(0, 50, 0);
+        x.freeze(0, 5, -20);
+        x.setAir(20);
+        CHECKS.due(15, "pass(2)", 2, x.pass(2));
+        // Counted first, so that it cannot lean on what the other answers have counted.
+        CHECKS.due(34, "pitchCount()", 2, x.pitchCount());
+        echoes(x, 0, 2);
+        x.strike(0, 1);
+        CHECKS.due(34, "pitchCount()", 2, x.pitchCount());
+        CHECKS.due(33, "echoPairsByPitch()", 1, x.echoPairsByPitch());
+        // Both layers crack once more: the upper one at 0, the lower one at -16.
+        CHECKS.due(15, "pass(2)", 2, x.pass(2));
+        CHECKS.due(30, "pealPitch(1)", 0, x.pealPitch(1));
+        CHECKS.due(30, "pealPitch(0)", 20 + 16, x.pealPitch(0));
+        CHECKS.due(34, "pitchCount()", 3, x.pitchCount());
+        CHECKS.due(32, "echoPairs()", 2, x.echoPairs());
+        CHECKS.due(33, "echoPairsByPitch()", 2, x.echoPairsByPitch());
+        x.undo();
+        CHECKS.due(34, "pitchCount() after undo()", 2, x.pitchCount());
     }
 
     private static void cracksOfLakes() {

@@ -11,6 +11,8 @@ public final class UndoTest {
         failedCallsAreNoChange();
         changesAfterUndo();
         everythingIsUndone();
+        everyPealComesBack();
+        lakesThatAreGoneLeaveNothing();
         commandTextIsKept();
         noSnapshot();
         snapshotIsKept();
@@ -169,6 +171,61 @@ public final class UndoTest {
         }
         CHECKS.due(50, "pealCount()", x.cracksOf(0) + 1, x.pealCount());
         CHECKS.due(50, "pealPitch(1)", pitch, x.pealPitch(1));
+    }
+
+    private static String peals(IceBells x) {
+        StringBuilder told = new StringBuilder();
+        for (int i = 0; i < x.pealCount(); i++) {
+            told.append(x.pealKind(i)).append(x.pealLake(i)).append('/').append(x.pealPitch(i)).append('@')
+                    .append(x.pealHour(i)).append(' ');
+        }
+        return told.toString();
+    }
+
+    /** Later peals take the place of all sixteen, so that none comes back by merely being counted again. */
+    private static void everyPealComesBack() {
+        IceBells x = new IceBells();
+        x.addLake(200);
+        x.addLake(200);
+        x.freeze(0, 10, -40);
+        x.freeze(0, 20, -30);
+        x.freeze(1, 11, -35);
+        x.setAir(-40);
+        for (int i = 0; i < 9; i++) {
+            x.strike(i % 2, 0);
+            x.pass(1);
+        }
+        String before = peals(x);
+        CHECKS.due(50, "pealCount()", 16, x.pealCount());
+        x.save();
+        CHECKS.due(50, "run() of strikes and hours", 5, Checks.runText(x, "strike 01;pass 9;strike 10;pass 9;strike 00"));
+        String after = peals(x);
+        x.undo();
+        CHECKS.due(50, "the peals after undo()", before, peals(x));
+        x.pass(20);
+        CHECKS.due(50, "the peals differ", false, after.equals(peals(x)) || before.equals(peals(x)));
+        x.restore();
+        CHECKS.due(52, "the peals after restore()", before, peals(x));
+    }
+
+    /** The lake that is added after restore() has the number of one that had ice and cracks. */
+    private static void lakesThatAreGoneLeaveNothing() {
+        IceBells x = new IceBells();
+        x.addLake(100);
+        x.setAir(-40);
+        x.save();
+        x.addLake(100);
+        x.freeze(1, 9, -40);
+        x.pass(3);
+        CHECKS.due(39, "crackTotal()", 3, x.crackTotal());
+        x.restore();
+        CHECKS.due(52, "lakeCount()", 1, x.lakeCount());
+        CHECKS.due(39, "crackTotal()", 0, x.crackTotal());
+        CHECKS.due(49, "isConsistent()", true, x.isConsistent());
+        CHECKS.due(2, "addLake(50)", 1, x.addLake(50));
+        CHECKS.due(5, "depth(1)", 50, x.depth(1));
+        CHECKS.due(6, "layerCount(1)", 0, x.layerCount(1));
+        CHECKS.due(35, "cracksOf(1)", 0, x.cracksOf(1));
     }
 
     private static void commandTextIsKept() {

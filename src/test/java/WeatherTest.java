@@ -182,6 +182,8 @@ public final class WeatherTest {
         CHECKS.due(15, "thickness(0, 1)", 8, x.thickness(0, 1));
         CHECKS.due(15, "strain(0, 1)", 1, x.strain(0, 1));
         CHECKS.thrown(15, "thickness(0, 2)", Checks.INDEX, () -> x.thickness(0, 2));
+        CHECKS.thrown(12, "layerAt(0, 15)", Checks.NO_ELEMENT, () -> x.layerAt(0, 15));
+        CHECKS.due(47, "meanTemperature(0)", -4.5, x.meanTemperature(0));
         CHECKS.due(38, "thawedTotal()", 1, x.thawedTotal());
         IceBells y = lakeOf(20, layer(1, 0));
         y.pass(1);
