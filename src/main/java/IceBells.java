@@ -704,11 +704,7 @@ public final class IceBells {
         }
 
         int iceByLayers() {
-            int sum = 0;
-            for (int i = 0; i < layerCount; i++) {
-                sum += thickness[i];
-            }
-            return sum;
+            return sumOfLayers(thickness);
         }
 
         int iceByHalves() {
@@ -741,9 +737,13 @@ public final class IceBells {
         }
 
         int temperatureSum() {
+            return sumOfLayers(temperature);
+        }
+
+        private int sumOfLayers(int[] row) {
             int sum = 0;
             for (int i = 0; i < layerCount; i++) {
-                sum += temperature[i];
+                sum += row[i];
             }
             return sum;
         }

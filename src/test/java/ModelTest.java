@@ -1,14 +1,16 @@
-/** Compares IceBells with the model on long runs of calls, drawn by a fixed rule. */
+/** Compares IceBells with the model on runs of calls, drawn by a fixed rule. */
 public final class ModelTest {
     private static final Checks CHECKS = new Checks("ModelTest");
-    private static final int RUNS = 60;
-    private static final int CHANGES_OF_A_RUN = 120;
+    private static final int RUNS = 3000;
+    // What an object answers after so many calls is free.
+    private static final int CALLS_OF_A_RUN = 512;
     private static final int[] EXTREMES = {
         Integer.MIN_VALUE, Integer.MIN_VALUE + 1, -1000000, -1, 0, 1, 9999, 10000, 1 << 30, Integer.MAX_VALUE - 1,
         Integer.MAX_VALUE,
     };
 
     private long drawn;
+    private int calls = 0;
     private final int run;
     private final IceBells bells = new IceBells();
     private final Model model = new Model();
@@ -21,9 +23,11 @@ public final class ModelTest {
     public static void main(String[] args) {
         for (int run = 0; run < RUNS; run++) {
             ModelTest test = new ModelTest(run);
-            for (int i = 0; i < CHANGES_OF_A_RUN; i++) {
-                test.oneCall();
-                test.compareAll();
+            while (test.calls < CALLS_OF_A_RUN) {
+                test.someChange();
+                for (int i = test.draw(12); i >= 0; i--) {
+                    test.someQuestion();
+                }
             }
         }
         CHECKS.finish();
@@ -35,8 +39,12 @@ public final class ModelTest {
         return (int) Math.floorMod(drawn >>> 33, (long) bound);
     }
 
+    private int extreme() {
+        return EXTREMES[draw(EXTREMES.length)];
+    }
+
     private int between(int least, int most) {
-        return draw(40) == 0 ? EXTREMES[draw(EXTREMES.length)] : least + draw(most - least + 1);
+        return draw(40) == 0 ? extreme() : least + draw(most - least + 1);
     }
 
     private static Object answer(Checks.Call call) {
@@ -48,10 +56,13 @@ public final class ModelTest {
     }
 
     private void same(String call, Checks.Call asked, Checks.Call due) {
-        CHECKS.due(0, "run " + run + ": " + call, answer(due), answer(asked));
+        calls++;
+        if (calls <= CALLS_OF_A_RUN) {
+            CHECKS.due(0, "run " + run + ", call " + calls + ": " + call, answer(due), answer(asked));
+        }
     }
 
-    private void oneCall() {
+    private void someChange() {
         switch (draw(20)) {
             case 0, 1 -> addLake(between(15, 405));
             case 2, 3, 4, 5, 6 -> freeze(between(0, 5), between(0, draw(2) == 0 ? 51 : 8), between(-41, 1));
@@ -84,8 +95,8 @@ public final class ModelTest {
     }
 
     private void addWindow(int ahead) {
-        int first = draw(40) == 0 ? EXTREMES[draw(EXTREMES.length)] : model.hour() + ahead;
-        int last = draw(40) == 0 ? EXTREMES[draw(EXTREMES.length)] : first + draw(8) - 1;
+        int first = draw(40) == 0 ? extreme() : model.hour() + ahead;
+        int last = draw(40) == 0 ? extreme() : first + draw(8) - 1;
         same("addWindow(" + first + ", " + last + ")", () -> bells.addWindow(first, last),
                 () -> model.addWindow(first, last));
     }
@@ -137,84 +148,98 @@ public final class ModelTest {
             same("append(" + (int) c + ")", () -> bells.append(c), () -> model.append(c));
         }
         same("run() of " + text, bells::run, model::run);
-    }
-
-    private void compareAll() {
-        same("lakeCount()", bells::lakeCount, model::lakeCount);
-        same("air()", bells::air, model::air);
-        same("hour()", bells::hour, model::hour);
-        same("hoursUntilCrack()", bells::hoursUntilCrack, model::hoursUntilCrack);
-        same("windowCount()", bells::windowCount, model::windowCount);
-        same("pealCount()", bells::pealCount, model::pealCount);
-        same("echoPairs()", bells::echoPairs, model::echoPairs);
-        same("echoPairsByPitch()", bells::echoPairsByPitch, model::echoPairs);
-        same("pitchCount()", bells::pitchCount, model::pitchCount);
-        same("frozenTotal()", bells::frozenTotal, model::frozenTotal);
-        same("thawedTotal()", bells::thawedTotal, model::thawedTotal);
-        same("crackTotal()", bells::crackTotal, model::crackTotal);
         same("errorPosition()", bells::errorPosition, model::errorPosition);
         same("failedCommand()", bells::failedCommand, model::failedCommand);
         same("failureKind()", bells::failureKind, model::failureKind);
-        same("isConsistent()", bells::isConsistent, () -> true);
-        for (int i = 0; i <= 5; i++) {
-            compareLake(i);
-        }
-        compareLake(EXTREMES[draw(EXTREMES.length)]);
-        for (int i = -1; i <= 16; i++) {
-            comparePeal(i);
-        }
-        comparePeal(EXTREMES[draw(EXTREMES.length)]);
-        for (int i = 0; i <= 6; i++) {
-            compareWindow(i);
-        }
-        compareWindow(EXTREMES[draw(EXTREMES.length)]);
     }
 
-    private void compareLake(int lake) {
+    private void someQuestion() {
+        switch (draw(11)) {
+            case 0, 1, 2, 3 -> ofALayer(between(0, 4), between(0, 7));
+            case 4, 5 -> ofALake(between(0, 4));
+            case 6 -> ofAPeal(between(-1, 16));
+            case 7 -> ofAWindow(between(-1, 6));
+            case 8 -> line(between(0, 4));
+            default -> ofTheLandscape();
+        }
+    }
+
+    private void ofTheLandscape() {
+        switch (draw(14)) {
+            case 0 -> same("lakeCount()", bells::lakeCount, model::lakeCount);
+            case 1 -> same("air()", bells::air, model::air);
+            case 2 -> same("hour()", bells::hour, model::hour);
+            case 3, 4 -> same("hoursUntilCrack()", bells::hoursUntilCrack, model::hoursUntilCrack);
+            case 5 -> same("windowCount()", bells::windowCount, model::windowCount);
+            case 6 -> same("pealCount()", bells::pealCount, model::pealCount);
+            case 7 -> same("echoPairs()", bells::echoPairs, model::echoPairs);
+            case 8 -> same("echoPairsByPitch()", bells::echoPairsByPitch, model::echoPairs);
+            case 9 -> same("pitchCount()", bells::pitchCount, model::pitchCount);
+            case 10 -> same("frozenTotal()", bells::frozenTotal, model::frozenTotal);
+            case 11 -> same("thawedTotal()", bells::thawedTotal, model::thawedTotal);
+            case 12 -> same("crackTotal()", bells::crackTotal, model::crackTotal);
+            default -> same("isConsistent()", bells::isConsistent, () -> true);
+        }
+    }
+
+    private void ofALake(int lake) {
         String of = "(" + lake + ")";
-        same("depth" + of, () -> bells.depth(lake), () -> model.depth(lake));
-        same("layerCount" + of, () -> bells.layerCount(lake), () -> model.layerCount(lake));
-        same("iceThickness" + of, () -> bells.iceThickness(lake), () -> model.iceThickness(lake));
-        same("iceThicknessByHalves" + of, () -> bells.iceThicknessByHalves(lake), () -> model.iceThickness(lake));
-        same("hoursUntilThawed" + of, () -> bells.hoursUntilThawed(lake), () -> model.hoursUntilThawed(lake));
-        same("cracksOf" + of, () -> bells.cracksOf(lake), () -> model.cracksOf(lake));
-        same("lakeAtRank" + of, () -> bells.lakeAtRank(lake), () -> model.lakeAtRank(lake));
-        same("meanTemperature" + of, () -> bells.meanTemperature(lake), () -> model.meanTemperature(lake));
-        same("iceShare" + of, () -> bells.iceShare(lake), () -> model.iceShare(lake));
-        same("describeLake" + of, () -> bells.describeLake(lake), () -> model.describeLake(lake));
-        for (int i = 0; i <= 64; i++) {
-            int index = i;
-            same("lineAt(" + i + ")", () -> bells.lineAt(index), () -> model.lineAt(index));
-        }
-        for (int i = 0; i <= 8; i++) {
-            compareLayer(lake, i);
-        }
-        compareLayer(lake, EXTREMES[draw(EXTREMES.length)]);
         int depth = between(-1, 60);
-        same("layerAt(" + lake + ", " + depth + ")", () -> bells.layerAt(lake, depth), () -> model.layerAt(lake, depth));
+        switch (draw(10)) {
+            case 0 -> same("depth" + of, () -> bells.depth(lake), () -> model.depth(lake));
+            case 1 -> same("layerCount" + of, () -> bells.layerCount(lake), () -> model.layerCount(lake));
+            case 2 -> same("iceThickness" + of, () -> bells.iceThickness(lake), () -> model.iceThickness(lake));
+            case 3 -> same("iceThicknessByHalves" + of, () -> bells.iceThicknessByHalves(lake),
+                    () -> model.iceThickness(lake));
+            case 4 -> same("hoursUntilThawed" + of, () -> bells.hoursUntilThawed(lake),
+                    () -> model.hoursUntilThawed(lake));
+            case 5 -> same("cracksOf" + of, () -> bells.cracksOf(lake), () -> model.cracksOf(lake));
+            case 6 -> same("lakeAtRank" + of, () -> bells.lakeAtRank(lake), () -> model.lakeAtRank(lake));
+            case 7 -> same("meanTemperature" + of, () -> bells.meanTemperature(lake), () -> model.meanTemperature(lake));
+            case 8 -> same("iceShare" + of, () -> bells.iceShare(lake), () -> model.iceShare(lake));
+            default -> same("layerAt(" + lake + ", " + depth + ")", () -> bells.layerAt(lake, depth),
+                    () -> model.layerAt(lake, depth));
+        }
     }
 
-    private void compareLayer(int lake, int layer) {
+    private void line(int lake) {
+        if (draw(3) == 0) {
+            same("describeLake(" + lake + ")", () -> bells.describeLake(lake), () -> model.describeLake(lake));
+        }
+        for (int i = draw(5); i >= 0; i--) {
+            int index = between(-1, 40);
+            same("lineAt(" + index + ")", () -> bells.lineAt(index), () -> model.lineAt(index));
+        }
+    }
+
+    private void ofALayer(int lake, int layer) {
         String of = "(" + lake + ", " + layer + ")";
-        same("thickness" + of, () -> bells.thickness(lake, layer), () -> model.thickness(lake, layer));
-        same("temperature" + of, () -> bells.temperature(lake, layer), () -> model.temperature(lake, layer));
-        same("strain" + of, () -> bells.strain(lake, layer), () -> model.strain(lake, layer));
-        same("pitch" + of, () -> bells.pitch(lake, layer), () -> model.pitch(lake, layer));
+        switch (draw(4)) {
+            case 0 -> same("thickness" + of, () -> bells.thickness(lake, layer), () -> model.thickness(lake, layer));
+            case 1 -> same("temperature" + of, () -> bells.temperature(lake, layer),
+                    () -> model.temperature(lake, layer));
+            case 2 -> same("strain" + of, () -> bells.strain(lake, layer), () -> model.strain(lake, layer));
+            default -> same("pitch" + of, () -> bells.pitch(lake, layer), () -> model.pitch(lake, layer));
+        }
     }
 
-    private void comparePeal(int recency) {
+    private void ofAPeal(int recency) {
         String of = "(" + recency + ")";
-        same("pealKind" + of, () -> bells.pealKind(recency), () -> model.pealKind(recency));
-        same("pealLake" + of, () -> bells.pealLake(recency), () -> model.pealLake(recency));
-        same("pealPitch" + of, () -> bells.pealPitch(recency), () -> model.pealPitch(recency));
-        same("pealHour" + of, () -> bells.pealHour(recency), () -> model.pealHour(recency));
+        switch (draw(4)) {
+            case 0 -> same("pealKind" + of, () -> bells.pealKind(recency), () -> model.pealKind(recency));
+            case 1 -> same("pealLake" + of, () -> bells.pealLake(recency), () -> model.pealLake(recency));
+            case 2 -> same("pealPitch" + of, () -> bells.pealPitch(recency), () -> model.pealPitch(recency));
+            default -> same("pealHour" + of, () -> bells.pealHour(recency), () -> model.pealHour(recency));
+        }
     }
 
-    private void compareWindow(int position) {
+    private void ofAWindow(int position) {
         String of = "(" + position + ")";
-        same("windowFirst" + of, () -> bells.windowFirst(position), () -> model.windowFirst(position));
-        same("windowLast" + of, () -> bells.windowLast(position), () -> model.windowLast(position));
-        int hour = draw(40) == 0 ? position : model.hour() + draw(40);
-        same("isInWindow(" + hour + ")", () -> bells.isInWindow(hour), () -> model.isInWindow(hour));
+        int hour = draw(10) == 0 ? extreme() : model.hour() + draw(50) - 10;
+        switch (draw(3)) {
+            case 0 -> same("windowFirst" + of, () -> bells.windowFirst(position), () -> model.windowFirst(position));
+            case 1 -> same("windowLast" + of, () -> bells.windowLast(position), () -> model.windowLast(position));
+            default -> same("isInWindow(" + hour + ")", () -> bells.isInWindow(hour), () -> model.isInWindow(hour));
+        }
     }
 }

@@ -175,7 +175,8 @@ public final class UndoTest {
 
     private static String peals(IceBells x) {
         StringBuilder told = new StringBuilder();
-        for (int i = 0; i < x.pealCount(); i++) {
+        int count = x.pealCount();
+        for (int i = 0; i < count; i++) {
             told.append(x.pealKind(i)).append(x.pealLake(i)).append('/').append(x.pealPitch(i)).append('@')
                     .append(x.pealHour(i)).append(' ');
         }

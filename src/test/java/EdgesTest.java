@@ -1,0 +1,17 @@
+/** Each boundary case that a sentence of the document names, in a test of its own that quotes the sentence. */
+public final class EdgesTest {
+    private EdgesTest() {
+    }
+
+    public static void main(String[] args) {
+        LakeEdges.all();
+        HourEdges.all();
+        WindowEdges.all();
+        PealEdges.all();
+        CommandEdges.all();
+        LineEdges.all();
+        ChangeEdges.all();
+        RefusalEdges.all();
+        Edges.finish();
+    }
+}
