@@ -44,13 +44,13 @@ final class CommandEdges {
 
     private static void runs(IceBells x, String text, int count) {
         Checks.type(x, text);
-        Edges.due("run() of \"" + text + "\"", count, x.run());
+        Cases.due("run() of \"" + text + "\"", count, x.run());
     }
 
     private static void noText(IceBells x, String text, int position) {
         Checks.type(x, text);
-        Edges.thrown("run() of \"" + text + "\"", Checks.ARGUMENT, () -> x.run());
-        Edges.due("errorPosition() of \"" + text + "\"", position, x.errorPosition());
+        Cases.thrown("run() of \"" + text + "\"", Checks.ARGUMENT, () -> x.run());
+        Cases.due("errorPosition() of \"" + text + "\"", position, x.errorPosition());
     }
 
     private static void noText(String text, int position) {
@@ -59,88 +59,88 @@ final class CommandEdges {
 
     private static void fails(IceBells x, String text, int command, char kind) {
         Checks.type(x, text);
-        Edges.thrown("run() of \"" + text + "\"", Checks.STATE, () -> x.run());
-        Edges.due("failedCommand() of \"" + text + "\"", command, x.failedCommand());
-        Edges.due("failureKind() of \"" + text + "\"", kind, x.failureKind());
+        Cases.thrown("run() of \"" + text + "\"", Checks.STATE, () -> x.run());
+        Cases.due("failedCommand() of \"" + text + "\"", command, x.failedCommand());
+        Cases.due("failureKind() of \"" + text + "\"", kind, x.failureKind());
     }
 
     private static void sixtyCharacters() {
-        Edges.quote(0, "The command text is a buffer of at most 60 characters.");
+        Cases.quote(0, "The command text is a buffer of at most 60 characters.");
         IceBells x = new IceBells();
         String text = "air 1;air 2;air 3;air 4;air 5;air 6;air 7;air 8;air 9;air 10";
-        Edges.due("the length of the text", 60, text.length());
+        Cases.due("the length of the text", 60, text.length());
         for (int i = 0; i < 60; i++) {
-            Edges.due("append() of character " + i, i + 1, x.append(text.charAt(i)));
+            Cases.due("append() of character " + i, i + 1, x.append(text.charAt(i)));
         }
-        Edges.thrown("append('0')", Checks.STATE, () -> x.append('0'));
-        Edges.due("run()", 10, x.run());
-        Edges.due("air()", 10, x.air());
+        Cases.thrown("append('0')", Checks.STATE, () -> x.append('0'));
+        Cases.due("run()", 10, x.run());
+        Cases.due("air()", 10, x.air());
     }
 
     private static void codesAtTheEnds() {
-        Edges.quote(40, "Returns the length of the command text after the call.");
+        Cases.quote(40, "Returns the length of the command text after the call.");
         IceBells x = new IceBells();
         for (int code = 32; code <= 79; code++) {
-            Edges.due("append of " + code, code - 31, x.append((char) code));
+            Cases.due("append of " + code, code - 31, x.append((char) code));
         }
         IceBells y = new IceBells();
         for (int code = 80; code <= 126; code++) {
-            Edges.due("append of " + code, code - 79, y.append((char) code));
+            Cases.due("append of " + code, code - 79, y.append((char) code));
         }
     }
 
     private static void codesBeyondTheEnds() {
-        Edges.quote(40, "Throws `IllegalArgumentException` if the code of the character is not from 32 to 126");
+        Cases.quote(40, "Throws `IllegalArgumentException` if the code of the character is not from 32 to 126");
         IceBells x = new IceBells();
         for (int code : new int[] {31, 127, 0, 10, 128, 255, 256 + 'a', 32767, 32768, 65535}) {
-            Edges.thrown("append of " + code, Checks.ARGUMENT, () -> x.append((char) code));
+            Cases.thrown("append of " + code, Checks.ARGUMENT, () -> x.append((char) code));
         }
-        Edges.due("append(' ')", 1, x.append(' '));
-        Edges.due("append('~')", 2, x.append('~'));
+        Cases.due("append(' ')", 1, x.append(' '));
+        Cases.due("append('~')", 2, x.append('~'));
     }
 
     private static void fullBuffer() {
-        Edges.quote(40, "Throws `IllegalStateException` if the command text has 60 characters");
+        Cases.quote(40, "Throws `IllegalStateException` if the command text has 60 characters");
         IceBells x = new IceBells();
         for (int i = 1; i <= 60; i++) {
-            Edges.due("append('a')", i, x.append('a'));
+            Cases.due("append('a')", i, x.append('a'));
         }
-        Edges.thrown("append('a') to 60", Checks.STATE, () -> x.append('a'));
-        Edges.thrown("append(' ') to 60", Checks.STATE, () -> x.append(' '));
-        Edges.thrown("run()", Checks.ARGUMENT, () -> x.run());
-        Edges.due("append('a') to the empty text", 1, x.append('a'));
+        Cases.thrown("append('a') to 60", Checks.STATE, () -> x.append('a'));
+        Cases.thrown("append(' ') to 60", Checks.STATE, () -> x.append(' '));
+        Cases.thrown("run()", Checks.ARGUMENT, () -> x.run());
+        Cases.due("append('a') to the empty text", 1, x.append('a'));
     }
 
     private static final String FORM =
             "A command text has the following form, where braces mean zero or more repetitions and brackets an optional part:";
 
     private static void formOfOneCommand() {
-        Edges.quote(0, FORM);
+        Cases.quote(0, FORM);
         IceBells x = new IceBells();
         runs(x, "lake 200", 1);
-        Edges.due("depth(0)", 200, x.depth(0));
+        Cases.due("depth(0)", 200, x.depth(0));
         runs(x, "freeze 0 12 -7", 1);
-        Edges.due("the thicknesses", "12", Edges.thicknesses(x));
-        Edges.due("the temperatures", "-7", Edges.temperatures(x));
+        Cases.due("the thicknesses", "12", Cases.thicknesses(x));
+        Cases.due("the temperatures", "-7", Cases.temperatures(x));
         runs(x, "air 3", 1);
-        Edges.due("air()", 3, x.air());
+        Cases.due("air()", 3, x.air());
         runs(x, "pass 2", 1);
-        Edges.due("hour()", 2, x.hour());
+        Cases.due("hour()", 2, x.hour());
         runs(x, "window 10-12", 1);
-        Edges.due("the windows", "10-12", Edges.windows(x));
+        Cases.due("the windows", "10-12", Cases.windows(x));
         runs(x, "open 0", 1);
-        Edges.due("the windows", "", Edges.windows(x));
+        Cases.due("the windows", "", Cases.windows(x));
         runs(x, "strike 00", 1);
-        Edges.due("pealCount()", 1, x.pealCount());
+        Cases.due("pealCount()", 1, x.pealCount());
     }
 
     private static void formOfRepetitions() {
-        Edges.quote(0, FORM);
+        Cases.quote(0, FORM);
         IceBells x = new IceBells();
         StringBuilder text = new StringBuilder("air 1");
         for (int count = 1; count <= 10; count++) {
             runs(x, text.toString(), count);
-            Edges.due("air()", count, x.air());
+            Cases.due("air()", count, x.air());
             text.append(";air ").append(count + 1);
         }
         noText(";air 1", 0);
@@ -152,13 +152,13 @@ final class CommandEdges {
     }
 
     private static void formOfNumbers() {
-        Edges.quote(0, FORM);
+        Cases.quote(0, FORM);
         IceBells x = new IceBells();
         runs(x, "lake 20", 1);
         runs(x, "lake 020", 1);
-        Edges.due("depth(1)", 20, x.depth(1));
+        Cases.due("depth(1)", 20, x.depth(1));
         runs(x, "pass 9;pass 09;pass 009", 3);
-        Edges.due("hour()", 27, x.hour());
+        Cases.due("hour()", 27, x.hour());
         noText("lake ", 5);
         noText("lake 1000", 8);
         noText("pass 0001", 8);
@@ -175,17 +175,17 @@ final class CommandEdges {
     }
 
     private static void formOfDegrees() {
-        Edges.quote(0, FORM);
+        Cases.quote(0, FORM);
         IceBells x = new IceBells();
         runs(x, "air -40", 1);
-        Edges.due("air()", -40, x.air());
+        Cases.due("air()", -40, x.air());
         runs(x, "air -0", 1);
-        Edges.due("air()", 0, x.air());
+        Cases.due("air()", 0, x.air());
         runs(x, "air 020", 1);
-        Edges.due("air()", 20, x.air());
+        Cases.due("air()", 20, x.air());
         runs(x, "air -007;lake 100;freeze 0 9 -009;freeze 0 1 0", 4);
-        Edges.due("air()", -7, x.air());
-        Edges.due("the temperatures", "-9 0", Edges.temperatures(x));
+        Cases.due("air()", -7, x.air());
+        Cases.due("the temperatures", "-9 0", Cases.temperatures(x));
         noText("air -", 5);
         noText("air --1", 5);
         noText("air - 1", 5);
@@ -194,7 +194,7 @@ final class CommandEdges {
     }
 
     private static void formOfDigits() {
-        Edges.quote(0, FORM);
+        Cases.quote(0, FORM);
         noText("open ", 5);
         noText("open 00", 6);
         noText("open -1", 5);
@@ -210,31 +210,31 @@ final class CommandEdges {
     }
 
     private static void parametersInTheirOrder() {
-        Edges.quote(0, "The commands call addLake(), freeze(), setAir(), pass(), addWindow(), removeWindow() and "
+        Cases.quote(0, "The commands call addLake(), freeze(), setAir(), pass(), addWindow(), removeWindow() and "
                 + "strike(), with the numbers of the command as parameters in their order.");
         IceBells x = new IceBells();
         runs(x, "lake 100;lake 200", 2);
-        Edges.due("depth(0)", 100, x.depth(0));
-        Edges.due("depth(1)", 200, x.depth(1));
+        Cases.due("depth(0)", 100, x.depth(0));
+        Cases.due("depth(1)", 200, x.depth(1));
         runs(x, "freeze 1 5 -9;freeze 1 4 -30", 2);
-        Edges.due("layerCount(0)", 0, x.layerCount(0));
-        Edges.due("thickness(1, 0)", 5, x.thickness(1, 0));
-        Edges.due("temperature(1, 0)", -9, x.temperature(1, 0));
-        Edges.due("thickness(1, 1)", 4, x.thickness(1, 1));
-        Edges.due("temperature(1, 1)", -30, x.temperature(1, 1));
+        Cases.due("layerCount(0)", 0, x.layerCount(0));
+        Cases.due("thickness(1, 0)", 5, x.thickness(1, 0));
+        Cases.due("temperature(1, 0)", -9, x.temperature(1, 0));
+        Cases.due("thickness(1, 1)", 4, x.thickness(1, 1));
+        Cases.due("temperature(1, 1)", -30, x.temperature(1, 1));
         runs(x, "strike 10;strike 11", 2);
-        Edges.due("the peals", "s1:55@0 s1:29@0", Edges.peals(x));
+        Cases.due("the peals", "s1:55@0 s1:29@0", Cases.peals(x));
         runs(x, "window 5-9;window 3-4;window 10-999", 3);
-        Edges.due("the windows", "3-4 5-9 10-999", Edges.windows(x));
+        Cases.due("the windows", "3-4 5-9 10-999", Cases.windows(x));
         runs(x, "open 1", 1);
-        Edges.due("the windows", "3-4 10-999", Edges.windows(x));
+        Cases.due("the windows", "3-4 10-999", Cases.windows(x));
         runs(x, "air -12;pass 3", 2);
-        Edges.due("air()", -12, x.air());
-        Edges.due("hour()", 3, x.hour());
+        Cases.due("air()", -12, x.air());
+        Cases.due("hour()", 3, x.hour());
     }
 
     private static void firstCharacterThatCannotContinue() {
-        Edges.quote(0, FIRST_WRONG);
+        Cases.quote(0, FIRST_WRONG);
         noText(" ", 0);
         noText("x", 0);
         noText("Lake 20", 0);
@@ -252,7 +252,7 @@ final class CommandEdges {
     }
 
     private static void errorInALaterCommand() {
-        Edges.quote(0, FIRST_WRONG);
+        Cases.quote(0, FIRST_WRONG);
         noText("lake 20;x", 8);
         noText("lake 20;air 1;pass x", 19);
         noText("lake 20;air 1;pass 1;y;z", 21);
@@ -260,7 +260,7 @@ final class CommandEdges {
     }
 
     private static void everyCharacterContinues() {
-        Edges.quote(0, ALL_CONTINUE);
+        Cases.quote(0, ALL_CONTINUE);
         for (String text : new String[] {"l", "lake", "lake ", "freeze 0", "freeze 0 5", "freeze 0 5 ", "freeze 0 5 -", "air",
             "air -", "pass ", "window 10", "window 10-", "open ", "strike ", "strike 0", "lake 20;", "lake 20;st"}) {
             noText(text, text.length());
@@ -268,19 +268,19 @@ final class CommandEdges {
     }
 
     private static void emptyText() {
-        Edges.quote(0, ALL_CONTINUE);
+        Cases.quote(0, ALL_CONTINUE);
         noText("", 0);
     }
 
     /** The form alone says what can continue a text, not the 60 characters of the buffer. */
     private static void fullTextThatGoesOn() {
-        Edges.quote(0, ALL_CONTINUE);
+        Cases.quote(0, ALL_CONTINUE);
         noText("air 1;air 2;air 3;air 4;air 5;air 6;air 7;air 8;air 9;air 0;", 60);
         noText("air 1;air 2;air 3;air 4;air 5;air 6;air 7;air 8;air 10;strik", 60);
     }
 
     private static void keywordsCharacterByCharacter() {
-        Edges.quote(0, "Keywords are matched character by character.");
+        Cases.quote(0, "Keywords are matched character by character.");
         noText("lbke 20", 1);
         noText("lakx 20", 3);
         noText("fr", 2);
@@ -297,7 +297,7 @@ final class CommandEdges {
     }
 
     private static IceBells fullLandscape() {
-        IceBells x = Edges.lakes(100, 100, 100, 100, 100);
+        IceBells x = Cases.lakes(100, 100, 100, 100, 100);
         for (int i = 0; i < 8; i++) {
             x.freeze(0, 1, -30);
         }
@@ -312,50 +312,50 @@ final class CommandEdges {
     }
 
     private static void allOrNone() {
-        Edges.quote(41, ALL_OR_NONE);
-        IceBells x = Edges.ice(0, Edges.layer(10, -31));
+        Cases.quote(41, ALL_OR_NONE);
+        IceBells x = Cases.ice(0, Cases.layer(10, -31));
         x.addWindow(100, 200);
-        String before = Edges.landscape(x);
+        String before = Cases.landscape(x);
         fails(x, "lake 50;open 0;air -40;pass 1;strike 00;strike 09", 5, 'b');
-        Edges.due("the landscape after the last of six fails", before, Edges.landscape(x));
+        Cases.due("the landscape after the last of six fails", before, Cases.landscape(x));
         fails(x, "lake 19;air 7", 0, 'a');
-        Edges.due("the landscape after the first of two fails", before, Edges.landscape(x));
+        Cases.due("the landscape after the first of two fails", before, Cases.landscape(x));
         noText(x, "air 7;pass 1;x", 13);
-        Edges.due("the landscape after what is no command text", before, Edges.landscape(x));
+        Cases.due("the landscape after what is no command text", before, Cases.landscape(x));
         runs(x, "lake 50;open 0;air -40;pass 1;strike 00", 5);
-        Edges.due("the landscape after five commands",
+        Cases.due("the landscape after five commands",
                 "air -40, hour 1, frozen 10, thawed 0, cracks 1, windows , peals s0:40@1 c0:40@1, lake 400 1 10/-30/0 lake 50 0 ",
-                Edges.landscape(x));
+                Cases.landscape(x));
     }
 
     private static void allOrNoneInAFullLandscape() {
-        Edges.quote(41, ALL_OR_NONE);
-        String before = Edges.landscape(fullLandscape());
+        Cases.quote(41, ALL_OR_NONE);
+        String before = Cases.landscape(fullLandscape());
         IceBells x = fullLandscape();
         fails(x, "open 5;window 1-2;strike 00;air 20;pass 48;lake 20", 5, 's');
-        Edges.due("the landscape", before, Edges.landscape(x));
+        Cases.due("the landscape", before, Cases.landscape(x));
         IceBells y = fullLandscape();
         fails(y, "strike 00;pass 48;pass 48;pass 48;open 0;freeze 0 1 0", 5, 's');
-        Edges.due("the landscape", before, Edges.landscape(y));
+        Cases.due("the landscape", before, Cases.landscape(y));
     }
 
     private static void textIsEmptyAfterwards() {
-        Edges.quote(41, "The command text is empty after the call, also if an exception is thrown.");
+        Cases.quote(41, "The command text is empty after the call, also if an exception is thrown.");
         IceBells x = new IceBells();
         runs(x, "air 5", 1);
-        Edges.due("append('x') after commands", 1, x.append('x'));
-        Edges.thrown("run() of \"x\"", Checks.ARGUMENT, () -> x.run());
-        Edges.due("append('a') after what is no command text", 1, x.append('a'));
+        Cases.due("append('x') after commands", 1, x.append('x'));
+        Cases.thrown("run() of \"x\"", Checks.ARGUMENT, () -> x.run());
+        Cases.due("append('a') after what is no command text", 1, x.append('a'));
         Checks.type(x, "ir 99");
-        Edges.thrown("run() of \"air 99\"", Checks.STATE, () -> x.run());
-        Edges.due("append('l') after a failed command", 1, x.append('l'));
-        Edges.thrown("run() of \"l\"", Checks.ARGUMENT, () -> x.run());
-        Edges.thrown("run() of the empty text", Checks.ARGUMENT, () -> x.run());
-        Edges.due("errorPosition() of the empty text", 0, x.errorPosition());
+        Cases.thrown("run() of \"air 99\"", Checks.STATE, () -> x.run());
+        Cases.due("append('l') after a failed command", 1, x.append('l'));
+        Cases.thrown("run() of \"l\"", Checks.ARGUMENT, () -> x.run());
+        Cases.thrown("run() of the empty text", Checks.ARGUMENT, () -> x.run());
+        Cases.due("errorPosition() of the empty text", 0, x.errorPosition());
     }
 
     private static void firstFailedCommand() {
-        Edges.quote(41, "The first command whose method would throw an exception is the failed command.");
+        Cases.quote(41, "The first command whose method would throw an exception is the failed command.");
         IceBells x = new IceBells();
         fails(x, "air 5;pass 0;lake 1;open 0", 1, 'a');
         // What a command would answer depends on the ones before it.
@@ -366,93 +366,93 @@ final class CommandEdges {
     }
 
     private static void noCommandText() {
-        Edges.quote(41, "Throws `IllegalArgumentException` if the text is not a command text; the error position is "
+        Cases.quote(41, "Throws `IllegalArgumentException` if the text is not a command text; the error position is "
                 + "set and the failed command is left as it is");
         IceBells x = new IceBells();
         noText(x, "air", 3);
-        Edges.thrown("failedCommand()", Checks.NO_ELEMENT, () -> x.failedCommand());
+        Cases.thrown("failedCommand()", Checks.NO_ELEMENT, () -> x.failedCommand());
         fails(x, "air 1;air 99", 1, 'a');
         // The first of these commands would fail, but the text is no command text.
         noText(x, "open 0;lake", 11);
-        Edges.due("failedCommand()", 1, x.failedCommand());
-        Edges.due("failureKind()", 'a', x.failureKind());
+        Cases.due("failedCommand()", 1, x.failedCommand());
+        Cases.due("failureKind()", 'a', x.failureKind());
     }
 
     private static void commandThatFails() {
-        Edges.quote(41, "Throws `IllegalStateException` if a command fails; the failed command is set and the error "
+        Cases.quote(41, "Throws `IllegalStateException` if a command fails; the failed command is set and the error "
                 + "position is left as it is");
         IceBells x = new IceBells();
         fails(x, "open 0", 0, 'b');
-        Edges.thrown("errorPosition()", Checks.NO_ELEMENT, () -> x.errorPosition());
+        Cases.thrown("errorPosition()", Checks.NO_ELEMENT, () -> x.errorPosition());
         noText(x, "air", 3);
         fails(x, "air 99", 0, 'a');
-        Edges.due("errorPosition()", 3, x.errorPosition());
+        Cases.due("errorPosition()", 3, x.errorPosition());
     }
 
     private static void errorPositionSetLast() {
-        Edges.quote(42, "Returns the error position that was set last.");
+        Cases.quote(42, "Returns the error position that was set last.");
         IceBells x = new IceBells();
         noText(x, "lake x", 5);
         noText(x, "x", 0);
         noText(x, "pass 1;pass", 11);
         runs(x, "pass 1", 1);
-        Edges.due("errorPosition() after a run without error", 11, x.errorPosition());
+        Cases.due("errorPosition() after a run without error", 11, x.errorPosition());
         noText(x, "", 0);
     }
 
     private static void noErrorPosition() {
-        Edges.quote(42, "Throws `NoSuchElementException` if no error position was set");
+        Cases.quote(42, "Throws `NoSuchElementException` if no error position was set");
         IceBells x = new IceBells();
-        Edges.thrown("errorPosition() of a new object", Checks.NO_ELEMENT, () -> x.errorPosition());
+        Cases.thrown("errorPosition() of a new object", Checks.NO_ELEMENT, () -> x.errorPosition());
         x.append('x');
-        Edges.thrown("errorPosition() before run()", Checks.NO_ELEMENT, () -> x.errorPosition());
+        Cases.thrown("errorPosition() before run()", Checks.NO_ELEMENT, () -> x.errorPosition());
         IceBells y = new IceBells();
         runs(y, "air 1", 1);
-        Edges.thrown("errorPosition() after a run without error", Checks.NO_ELEMENT, () -> y.errorPosition());
+        Cases.thrown("errorPosition() after a run without error", Checks.NO_ELEMENT, () -> y.errorPosition());
     }
 
     private static void failedCommandOfTheLatestRun() {
-        Edges.quote(43, "Returns the index of the failed command of the latest run in which a command failed.");
+        Cases.quote(43, "Returns the index of the failed command of the latest run in which a command failed.");
         IceBells x = new IceBells();
         fails(x, "air 1;air 2;air 99", 2, 'a');
         runs(x, "air 1;air 2;air 3", 3);
-        Edges.due("failedCommand() after a run in which none failed", 2, x.failedCommand());
+        Cases.due("failedCommand() after a run in which none failed", 2, x.failedCommand());
         fails(x, "air 1;open 0", 1, 'b');
         fails(x, "air 1;air 2;air 3;air 4;air 5;air 6;air 7;air 8;air 9;air 21", 9, 'a');
     }
 
     private static void failedCommandFromZero() {
-        Edges.quote(43, "Returns the index, from 0.");
+        Cases.quote(43, "Returns the index, from 0.");
         fails(new IceBells(), "open 0", 0, 'b');
         fails(new IceBells(), "air 1;open 0", 1, 'b');
     }
 
     private static void noFailedCommand() {
-        Edges.quote(43, "Throws `NoSuchElementException` if no command has failed");
+        Cases.quote(43, "Throws `NoSuchElementException` if no command has failed");
         IceBells x = new IceBells();
-        Edges.thrown("failedCommand() of a new object", Checks.NO_ELEMENT, () -> x.failedCommand());
+        Cases.thrown("failedCommand() of a new object", Checks.NO_ELEMENT, () -> x.failedCommand());
         runs(x, "air 1", 1);
-        Edges.thrown("failedCommand() after a run", Checks.NO_ELEMENT, () -> x.failedCommand());
+        Cases.thrown("failedCommand() after a run", Checks.NO_ELEMENT, () -> x.failedCommand());
         // A call that is no command fails, too, but it is no failed command.
-        Edges.thrown("setAir(99)", Checks.ARGUMENT, () -> x.setAir(99));
-        Edges.thrown("failedCommand() after a failed call", Checks.NO_ELEMENT, () -> x.failedCommand());
+        Cases.thrown("setAir(99)", Checks.ARGUMENT, () -> x.setAir(99));
+        Cases.thrown("failedCommand() after a failed call", Checks.NO_ELEMENT, () -> x.failedCommand());
     }
 
     private static void kindOfTheLatestRun() {
-        Edges.quote(44, "Returns the kind of the exception because of which the failed command of the latest run "
+        Cases.quote(44, "Returns the kind of the exception because of which the failed command of the latest run "
                 + "with a failed command failed.");
         IceBells x = new IceBells();
         fails(x, "open 0", 0, 'b');
         fails(x, "air 99", 0, 'a');
         runs(x, "air 1", 1);
-        Edges.due("failureKind() after a run in which none failed", 'a', x.failureKind());
+        Cases.due("failureKind() after a run in which none failed", 'a', x.failureKind());
         noText(x, "x", 0);
-        Edges.due("failureKind() after what is no command text", 'a', x.failureKind());
+        Cases.due("failureKind() after what is no command text", 'a', x.failureKind());
         fails(x, "window 0-1", 0, 's');
     }
 
     private static void everyKind() {
-        Edges.quote(44, "Returns 'b' for an index out of bounds, 'a' for an illegal argument, 's' for an illegal "
+        Cases.quote(44, "Returns 'b' for an index out of bounds, 'a' for an illegal argument, 's' for an illegal "
                 + "state, 'u' for an unsupported operation.");
         IceBells x = new IceBells();
         fails(x, "lake 19", 0, 'a');
@@ -484,11 +484,11 @@ final class CommandEdges {
     }
 
     private static void noFailureKind() {
-        Edges.quote(44, "Throws `NoSuchElementException` if no command has failed");
+        Cases.quote(44, "Throws `NoSuchElementException` if no command has failed");
         IceBells x = new IceBells();
-        Edges.thrown("failureKind() of a new object", Checks.NO_ELEMENT, () -> x.failureKind());
+        Cases.thrown("failureKind() of a new object", Checks.NO_ELEMENT, () -> x.failureKind());
         noText(x, "x", 0);
-        Edges.thrown("failureKind() after what is no command text", Checks.NO_ELEMENT, () -> x.failureKind());
+        Cases.thrown("failureKind() after what is no command text", Checks.NO_ELEMENT, () -> x.failureKind());
         fails(x, "open 0", 0, 'b');
     }
 }

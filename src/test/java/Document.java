@@ -58,20 +58,40 @@ final class Document {
         return sentences.get(section).contains(sentence);
     }
 
-    /** The sentences that name a boundary case, and that no test has quoted. */
-    List<String> unquoted() {
+    /** The sentences that name a boundary case, and that no test has quoted; all of "Terms" count as such. */
+    List<String> unquotedBoundaries() {
         List<String> left = new ArrayList<>();
         for (int section = 0; section <= PROMISES; section++) {
             if (sentences.get(section).isEmpty()) {
                 left.add("section " + section + " is missing");
             }
             for (String sentence : sentences.get(section)) {
-                boolean boundary = section == TERMS || BOUNDARY.matcher(sentence).find();
-                if (boundary && !quoted.get(section).contains(sentence)) {
+                if (namesBoundary(section, sentence) && !quoted.get(section).contains(sentence)) {
                     left.add(section + ": " + sentence);
                 }
             }
         }
         return left;
+    }
+
+    /** The other sentences of the promises that no test has quoted, but for those that tell a parameter's name alone. */
+    List<String> unquotedOthers() {
+        List<String> left = new ArrayList<>();
+        for (int section = 1; section <= PROMISES; section++) {
+            if (quoted.get(section).isEmpty()) {
+                left.add("all of promise " + section);
+            }
+            for (String sentence : sentences.get(section)) {
+                boolean parameter = sentence.startsWith("`");
+                if (!namesBoundary(section, sentence) && !parameter && !quoted.get(section).contains(sentence)) {
+                    left.add(section + ": " + sentence);
+                }
+            }
+        }
+        return left;
+    }
+
+    private static boolean namesBoundary(int section, String sentence) {
+        return section == TERMS || BOUNDARY.matcher(sentence).find();
     }
 }

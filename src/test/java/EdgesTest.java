@@ -4,6 +4,7 @@ public final class EdgesTest {
     }
 
     public static void main(String[] args) {
+        Cases.begin("EdgesTest");
         LakeEdges.all();
         HourEdges.all();
         WindowEdges.all();
@@ -12,6 +13,6 @@ public final class EdgesTest {
         LineEdges.all();
         ChangeEdges.all();
         RefusalEdges.all();
-        Edges.finish();
+        Cases.finishBoundaries();
     }
 }

@@ -43,207 +43,207 @@ final class LakeEdges {
     }
 
     private static void newObject() {
-        Edges.quote(1, "Creates a landscape without lakes at hour 0; the temperature of the air is 0.");
+        Cases.quote(1, "Creates a landscape without lakes at hour 0; the temperature of the air is 0.");
         IceBells x = new IceBells();
-        Edges.due("lakeCount()", 0, x.lakeCount());
-        Edges.due("hour()", 0, x.hour());
-        Edges.due("air()", 0, x.air());
-        Edges.due("the landscape", "air 0, hour 0, frozen 0, thawed 0, cracks 0, windows , peals , ", Edges.landscape(x));
+        Cases.due("lakeCount()", 0, x.lakeCount());
+        Cases.due("hour()", 0, x.hour());
+        Cases.due("air()", 0, x.air());
+        Cases.due("the landscape", "air 0, hour 0, frozen 0, thawed 0, cracks 0, windows , peals , ", Cases.landscape(x));
     }
 
     private static void lakesAreNumbered() {
-        Edges.quote(0, "There are at most 5 lakes, numbered from 0.");
+        Cases.quote(0, "There are at most 5 lakes, numbered from 0.");
         IceBells x = new IceBells();
         for (int i = 0; i < 5; i++) {
-            Edges.due("addLake(" + (50 + i) + ")", i, x.addLake(50 + i));
+            Cases.due("addLake(" + (50 + i) + ")", i, x.addLake(50 + i));
         }
         for (int i = 0; i < 5; i++) {
-            Edges.due("depth(" + i + ")", 50 + i, x.depth(i));
+            Cases.due("depth(" + i + ")", 50 + i, x.depth(i));
         }
-        Edges.thrown("addLake(55)", Checks.STATE, () -> x.addLake(55));
-        Edges.due("lakeCount()", 5, x.lakeCount());
+        Cases.thrown("addLake(55)", Checks.STATE, () -> x.addLake(55));
+        Cases.due("lakeCount()", 5, x.lakeCount());
     }
 
     private static void depthsAtTheEnds() {
-        Edges.quote(2, "`depth`: the depth in centimetres, 20 to 400");
+        Cases.quote(2, "`depth`: the depth in centimetres, 20 to 400");
         IceBells x = new IceBells();
-        Edges.due("addLake(20)", 0, x.addLake(20));
-        Edges.due("depth(0)", 20, x.depth(0));
-        Edges.due("addLake(400)", 1, x.addLake(400));
-        Edges.due("depth(1)", 400, x.depth(1));
+        Cases.due("addLake(20)", 0, x.addLake(20));
+        Cases.due("depth(0)", 20, x.depth(0));
+        Cases.due("addLake(400)", 1, x.addLake(400));
+        Cases.due("depth(1)", 400, x.depth(1));
     }
 
     private static void depthsBeyondTheEnds() {
-        Edges.quote(2, "Throws `IllegalArgumentException` if the depth is not from 20 to 400");
+        Cases.quote(2, "Throws `IllegalArgumentException` if the depth is not from 20 to 400");
         IceBells x = new IceBells();
         for (int depth : new int[] {19, 401, 0, -1, -20, -400, Integer.MIN_VALUE, Integer.MAX_VALUE}) {
-            Edges.thrown("addLake(" + depth + ")", Checks.ARGUMENT, () -> x.addLake(depth));
+            Cases.thrown("addLake(" + depth + ")", Checks.ARGUMENT, () -> x.addLake(depth));
         }
-        Edges.due("lakeCount()", 0, x.lakeCount());
+        Cases.due("lakeCount()", 0, x.lakeCount());
     }
 
     private static void sixthLake() {
-        Edges.quote(2, "Throws `IllegalStateException` if there are 5 lakes");
-        IceBells x = Edges.lakes(100, 100, 100, 100);
-        Edges.due("addLake(400) beside 4 lakes", 4, x.addLake(400));
-        Edges.thrown("addLake(20) beside 5 lakes", Checks.STATE, () -> x.addLake(20));
-        Edges.thrown("addLake(400) beside 5 lakes", Checks.STATE, () -> x.addLake(400));
+        Cases.quote(2, "Throws `IllegalStateException` if there are 5 lakes");
+        IceBells x = Cases.lakes(100, 100, 100, 100);
+        Cases.due("addLake(400) beside 4 lakes", 4, x.addLake(400));
+        Cases.thrown("addLake(20) beside 5 lakes", Checks.STATE, () -> x.addLake(20));
+        Cases.thrown("addLake(400) beside 5 lakes", Checks.STATE, () -> x.addLake(400));
         x.undo();
-        Edges.due("addLake(30) beside 4 lakes again", 4, x.addLake(30));
+        Cases.due("addLake(30) beside 4 lakes again", 4, x.addLake(30));
     }
 
     private static void layersAreNumbered() {
-        Edges.quote(0, "The ice of a lake consists of at most 8 layers, numbered from 0, the top one, downwards.");
-        IceBells x = Edges.lakes(400);
+        Cases.quote(0, "The ice of a lake consists of at most 8 layers, numbered from 0, the top one, downwards.");
+        IceBells x = Cases.lakes(400);
         for (int i = 0; i < 8; i++) {
-            Edges.due("freeze(0, " + (10 + i) + ", 0)", i + 1, x.freeze(0, 10 + i, 0));
+            Cases.due("freeze(0, " + (10 + i) + ", 0)", i + 1, x.freeze(0, 10 + i, 0));
         }
-        Edges.due("the thicknesses", "10 11 12 13 14 15 16 17", Edges.thicknesses(x));
-        Edges.thrown("freeze(0, 1, 0)", Checks.STATE, () -> x.freeze(0, 1, 0));
-        Edges.due("layerCount(0)", 8, x.layerCount(0));
+        Cases.due("the thicknesses", "10 11 12 13 14 15 16 17", Cases.thicknesses(x));
+        Cases.thrown("freeze(0, 1, 0)", Checks.STATE, () -> x.freeze(0, 1, 0));
+        Cases.due("layerCount(0)", 8, x.layerCount(0));
     }
 
     private static void layersBeneathMoveUp() {
-        Edges.quote(0, "When a layer disappears, the numbers of the layers beneath it decrease by 1.");
-        IceBells x = Edges.ice(20, Edges.layer(1, 0), Edges.layer(2, -6), Edges.layer(3, -12), Edges.layer(4, -9),
-                Edges.layer(5, -2), Edges.layer(6, -1), Edges.layer(7, -20), Edges.layer(8, -4));
+        Cases.quote(0, "When a layer disappears, the numbers of the layers beneath it decrease by 1.");
+        IceBells x = Cases.ice(20, Cases.layer(1, 0), Cases.layer(2, -6), Cases.layer(3, -12), Cases.layer(4, -9),
+                Cases.layer(5, -2), Cases.layer(6, -1), Cases.layer(7, -20), Cases.layer(8, -4));
         x.pass(1);
         // The targets are 7, -6, -7, -7, -5, -11, -2 and -10.
-        Edges.due("the thicknesses", "2 3 4 5 6 7 8", Edges.thicknesses(x));
-        Edges.due("the temperatures", "-6 -11 -8 -3 -2 -19 -5", Edges.temperatures(x));
-        Edges.due("the strains", "5 3 5 1 17 14 5", Edges.strains(x));
-        Edges.thrown("thickness(0, 7)", Checks.INDEX, () -> x.thickness(0, 7));
+        Cases.due("the thicknesses", "2 3 4 5 6 7 8", Cases.thicknesses(x));
+        Cases.due("the temperatures", "-6 -11 -8 -3 -2 -19 -5", Cases.temperatures(x));
+        Cases.due("the strains", "5 3 5 1 17 14 5", Cases.strains(x));
+        Cases.thrown("thickness(0, 7)", Checks.INDEX, () -> x.thickness(0, 7));
     }
 
     private static void placeOfADisappearedLayer() {
-        Edges.quote(3, EIGHT_LAYERS);
-        IceBells x = Edges.lakes(400);
+        Cases.quote(3, EIGHT_LAYERS);
+        IceBells x = Cases.lakes(400);
         for (int i = 0; i < 8; i++) {
             x.freeze(0, 1 + i, 0);
         }
         x.setAir(1);
         x.pass(1);
-        Edges.due("freeze(0, 9, -3) on 7 layers", 8, x.freeze(0, 9, -3));
-        Edges.due("the thicknesses", "2 3 4 5 6 7 8 9", Edges.thicknesses(x));
-        Edges.thrown("freeze(0, 9, -3) on 8 layers", Checks.STATE, () -> x.freeze(0, 9, -3));
+        Cases.due("freeze(0, 9, -3) on 7 layers", 8, x.freeze(0, 9, -3));
+        Cases.due("the thicknesses", "2 3 4 5 6 7 8 9", Cases.thicknesses(x));
+        Cases.thrown("freeze(0, 9, -3) on 8 layers", Checks.STATE, () -> x.freeze(0, 9, -3));
     }
 
     private static void temperatureOfALayer() {
-        Edges.quote(0, LAYER);
-        IceBells x = Edges.ice(20, Edges.layer(50, -2), Edges.layer(50, -1), Edges.layer(50, 0));
+        Cases.quote(0, LAYER);
+        IceBells x = Cases.ice(20, Cases.layer(50, -2), Cases.layer(50, -1), Cases.layer(50, 0));
         for (int i = 0; i < 10; i++) {
             x.pass(1);
             for (int k = 0; k < 3; k++) {
-                Edges.due("temperature(0, " + k + ") is greater than 0", false, x.temperature(0, k) > 0);
+                Cases.due("temperature(0, " + k + ") is greater than 0", false, x.temperature(0, k) > 0);
             }
         }
-        Edges.due("the temperatures", "0 0 0", Edges.temperatures(x));
+        Cases.due("the temperatures", "0 0 0", Cases.temperatures(x));
     }
 
     /** The layer takes the place of one that had a strain, so that a strain left there would show. */
     private static void strainOfANewLayer() {
-        Edges.quote(0, LAYER);
-        IceBells x = Edges.ice(20, Edges.layer(1, 0), Edges.layer(9, -21));
+        Cases.quote(0, LAYER);
+        IceBells x = Cases.ice(20, Cases.layer(1, 0), Cases.layer(9, -21));
         x.pass(1);
-        Edges.due("the strains", "20", Edges.strains(x));
+        Cases.due("the strains", "20", Cases.strains(x));
         x.freeze(0, 8, -40);
-        Edges.due("the strains", "20 0", Edges.strains(x));
+        Cases.due("the strains", "20 0", Cases.strains(x));
         x.undo();
         x.undo();
-        Edges.due("the strains", "0 0", Edges.strains(x));
+        Cases.due("the strains", "0 0", Cases.strains(x));
     }
 
     private static void thicknessesAtTheEnds() {
-        Edges.quote(3, "`thickness`: the thickness in centimetres, 1 to 50");
-        IceBells x = Edges.lakes(400);
-        Edges.due("freeze(0, 1, -5)", 1, x.freeze(0, 1, -5));
-        Edges.due("freeze(0, 50, -5)", 2, x.freeze(0, 50, -5));
-        Edges.due("the thicknesses", "1 50", Edges.thicknesses(x));
+        Cases.quote(3, "`thickness`: the thickness in centimetres, 1 to 50");
+        IceBells x = Cases.lakes(400);
+        Cases.due("freeze(0, 1, -5)", 1, x.freeze(0, 1, -5));
+        Cases.due("freeze(0, 50, -5)", 2, x.freeze(0, 50, -5));
+        Cases.due("the thicknesses", "1 50", Cases.thicknesses(x));
     }
 
     private static void temperaturesAtTheEnds() {
-        Edges.quote(3, "`temperature`: the temperature in degrees, -40 to 0");
-        IceBells x = Edges.lakes(400);
-        Edges.due("freeze(0, 5, -40)", 1, x.freeze(0, 5, -40));
-        Edges.due("freeze(0, 5, 0)", 2, x.freeze(0, 5, 0));
-        Edges.due("the temperatures", "-40 0", Edges.temperatures(x));
+        Cases.quote(3, "`temperature`: the temperature in degrees, -40 to 0");
+        IceBells x = Cases.lakes(400);
+        Cases.due("freeze(0, 5, -40)", 1, x.freeze(0, 5, -40));
+        Cases.due("freeze(0, 5, 0)", 2, x.freeze(0, 5, 0));
+        Cases.due("the temperatures", "-40 0", Cases.temperatures(x));
     }
 
     private static void freezeInAMissingLake() {
-        Edges.quote(3, "Throws `IndexOutOfBoundsException` if there is no such lake");
+        Cases.quote(3, "Throws `IndexOutOfBoundsException` if there is no such lake");
         IceBells none = new IceBells();
-        Edges.thrown("freeze(0, 5, -5) without lakes", Checks.INDEX, () -> none.freeze(0, 5, -5));
-        IceBells x = Edges.lakes(100, 100, 100, 100, 100);
-        Edges.due("freeze(4, 5, -5)", 1, x.freeze(4, 5, -5));
+        Cases.thrown("freeze(0, 5, -5) without lakes", Checks.INDEX, () -> none.freeze(0, 5, -5));
+        IceBells x = Cases.lakes(100, 100, 100, 100, 100);
+        Cases.due("freeze(4, 5, -5)", 1, x.freeze(4, 5, -5));
         for (int lake : new int[] {5, -1, Integer.MIN_VALUE, Integer.MAX_VALUE}) {
-            Edges.thrown("freeze(" + lake + ", 5, -5)", Checks.INDEX, () -> x.freeze(lake, 5, -5));
+            Cases.thrown("freeze(" + lake + ", 5, -5)", Checks.INDEX, () -> x.freeze(lake, 5, -5));
         }
     }
 
     private static void freezeOfAThicknessOutOfRange() {
-        Edges.quote(3, OUT_OF_RANGE);
-        IceBells x = Edges.lakes(400);
+        Cases.quote(3, OUT_OF_RANGE);
+        IceBells x = Cases.lakes(400);
         for (int thickness : new int[] {0, 51, -1, -50, Integer.MIN_VALUE, Integer.MAX_VALUE}) {
-            Edges.thrown("freeze(0, " + thickness + ", -5)", Checks.ARGUMENT, () -> x.freeze(0, thickness, -5));
+            Cases.thrown("freeze(0, " + thickness + ", -5)", Checks.ARGUMENT, () -> x.freeze(0, thickness, -5));
         }
-        Edges.due("layerCount(0)", 0, x.layerCount(0));
+        Cases.due("layerCount(0)", 0, x.layerCount(0));
     }
 
     private static void freezeOfATemperatureOutOfRange() {
-        Edges.quote(3, OUT_OF_RANGE);
-        IceBells x = Edges.lakes(400);
+        Cases.quote(3, OUT_OF_RANGE);
+        IceBells x = Cases.lakes(400);
         for (int degrees : new int[] {-41, 1, 40, Integer.MIN_VALUE, Integer.MAX_VALUE}) {
-            Edges.thrown("freeze(0, 5, " + degrees + ")", Checks.ARGUMENT, () -> x.freeze(0, 5, degrees));
+            Cases.thrown("freeze(0, 5, " + degrees + ")", Checks.ARGUMENT, () -> x.freeze(0, 5, degrees));
         }
-        Edges.due("layerCount(0)", 0, x.layerCount(0));
+        Cases.due("layerCount(0)", 0, x.layerCount(0));
     }
 
     private static void ninthLayer() {
-        Edges.quote(3, EIGHT_LAYERS);
-        IceBells x = Edges.lakes(400, 400);
+        Cases.quote(3, EIGHT_LAYERS);
+        IceBells x = Cases.lakes(400, 400);
         for (int i = 1; i <= 8; i++) {
-            Edges.due("freeze(0, 1, 0)", i, x.freeze(0, 1, 0));
+            Cases.due("freeze(0, 1, 0)", i, x.freeze(0, 1, 0));
         }
-        Edges.thrown("freeze(0, 1, 0) on 8 layers", Checks.STATE, () -> x.freeze(0, 1, 0));
-        Edges.due("freeze(1, 1, 0) beside the full lake", 1, x.freeze(1, 1, 0));
+        Cases.thrown("freeze(0, 1, 0) on 8 layers", Checks.STATE, () -> x.freeze(0, 1, 0));
+        Cases.due("freeze(1, 1, 0) beside the full lake", 1, x.freeze(1, 1, 0));
     }
 
     private static void halfOfAnEvenDepth() {
-        Edges.quote(3, THICKER_THAN_HALF);
-        IceBells x = Edges.lakes(20);
-        Edges.thrown("freeze(0, 11, 0) in 20 cm", Checks.UNSUPPORTED, () -> x.freeze(0, 11, 0));
-        Edges.due("freeze(0, 9, 0) in 20 cm", 1, x.freeze(0, 9, 0));
-        Edges.thrown("freeze(0, 2, 0) beneath 9 cm", Checks.UNSUPPORTED, () -> x.freeze(0, 2, 0));
-        Edges.due("freeze(0, 1, 0) beneath 9 cm", 2, x.freeze(0, 1, 0));
-        Edges.thrown("freeze(0, 1, 0) beneath 10 cm", Checks.UNSUPPORTED, () -> x.freeze(0, 1, 0));
+        Cases.quote(3, THICKER_THAN_HALF);
+        IceBells x = Cases.lakes(20);
+        Cases.thrown("freeze(0, 11, 0) in 20 cm", Checks.UNSUPPORTED, () -> x.freeze(0, 11, 0));
+        Cases.due("freeze(0, 9, 0) in 20 cm", 1, x.freeze(0, 9, 0));
+        Cases.thrown("freeze(0, 2, 0) beneath 9 cm", Checks.UNSUPPORTED, () -> x.freeze(0, 2, 0));
+        Cases.due("freeze(0, 1, 0) beneath 9 cm", 2, x.freeze(0, 1, 0));
+        Cases.thrown("freeze(0, 1, 0) beneath 10 cm", Checks.UNSUPPORTED, () -> x.freeze(0, 1, 0));
     }
 
     private static void halfOfAnOddDepth() {
-        Edges.quote(3, THICKER_THAN_HALF);
-        IceBells x = Edges.lakes(21);
+        Cases.quote(3, THICKER_THAN_HALF);
+        IceBells x = Cases.lakes(21);
         // Half of 21 is 10.5.
-        Edges.thrown("freeze(0, 11, 0) in 21 cm", Checks.UNSUPPORTED, () -> x.freeze(0, 11, 0));
-        Edges.due("freeze(0, 10, 0) in 21 cm", 1, x.freeze(0, 10, 0));
+        Cases.thrown("freeze(0, 11, 0) in 21 cm", Checks.UNSUPPORTED, () -> x.freeze(0, 11, 0));
+        Cases.due("freeze(0, 10, 0) in 21 cm", 1, x.freeze(0, 10, 0));
     }
 
     private static void halfOfTheGreatestDepth() {
-        Edges.quote(3, THICKER_THAN_HALF);
-        IceBells x = Edges.lakes(400);
+        Cases.quote(3, THICKER_THAN_HALF);
+        IceBells x = Cases.lakes(400);
         for (int i = 1; i <= 4; i++) {
-            Edges.due("freeze(0, 50, 0) in 400 cm", i, x.freeze(0, 50, 0));
+            Cases.due("freeze(0, 50, 0) in 400 cm", i, x.freeze(0, 50, 0));
         }
-        Edges.thrown("freeze(0, 1, 0) beneath 200 cm", Checks.UNSUPPORTED, () -> x.freeze(0, 1, 0));
-        Edges.due("iceThickness(0)", 200, x.iceThickness(0));
+        Cases.thrown("freeze(0, 1, 0) beneath 200 cm", Checks.UNSUPPORTED, () -> x.freeze(0, 1, 0));
+        Cases.due("iceThickness(0)", 200, x.iceThickness(0));
     }
 
     private static void roomAfterThawing() {
-        Edges.quote(3, THICKER_THAN_HALF);
-        IceBells x = Edges.lakes(20);
+        Cases.quote(3, THICKER_THAN_HALF);
+        IceBells x = Cases.lakes(20);
         x.freeze(0, 10, 0);
         x.setAir(1);
         x.pass(1);
-        Edges.thrown("freeze(0, 2, 0) beneath 9 cm", Checks.UNSUPPORTED, () -> x.freeze(0, 2, 0));
-        Edges.due("freeze(0, 1, 0) beneath 9 cm", 2, x.freeze(0, 1, 0));
+        Cases.thrown("freeze(0, 2, 0) beneath 9 cm", Checks.UNSUPPORTED, () -> x.freeze(0, 2, 0));
+        Cases.due("freeze(0, 1, 0) beneath 9 cm", 2, x.freeze(0, 1, 0));
     }
 
     private interface OfLake {
@@ -251,25 +251,25 @@ final class LakeEdges {
     }
 
     static void missingLake(int promise, String call, OfLake asked) {
-        Edges.quote(promise, "Throws `IndexOutOfBoundsException` if there is no such lake");
+        Cases.quote(promise, "Throws `IndexOutOfBoundsException` if there is no such lake");
         IceBells none = new IceBells();
-        Edges.thrown(call + "(0) without lakes", Checks.INDEX, () -> asked.answer(none, 0));
-        IceBells x = Edges.lakes(100, 100, 100, 100);
+        Cases.thrown(call + "(0) without lakes", Checks.INDEX, () -> asked.answer(none, 0));
+        IceBells x = Cases.lakes(100, 100, 100, 100);
         x.setAir(20);
         for (int i = 0; i < 4; i++) {
             x.freeze(i, 5, -5);
         }
-        Edges.thrown(call + "(4) with 4 lakes", Checks.INDEX, () -> asked.answer(x, 4));
+        Cases.thrown(call + "(4) with 4 lakes", Checks.INDEX, () -> asked.answer(x, 4));
         x.addLake(100);
         x.freeze(4, 5, -5);
-        Edges.thrown(call + "(4) with 5 lakes", null, () -> asked.answer(x, 4));
-        Edges.thrown(call + "(0) with 5 lakes", null, () -> asked.answer(x, 0));
+        Cases.thrown(call + "(4) with 5 lakes", null, () -> asked.answer(x, 4));
+        Cases.thrown(call + "(0) with 5 lakes", null, () -> asked.answer(x, 0));
         for (int lake : new int[] {5, -1, -5, Integer.MIN_VALUE, Integer.MAX_VALUE}) {
-            Edges.thrown(call + "(" + lake + ") with 5 lakes", Checks.INDEX, () -> asked.answer(x, lake));
+            Cases.thrown(call + "(" + lake + ") with 5 lakes", Checks.INDEX, () -> asked.answer(x, lake));
         }
         x.undo();
         x.undo();
-        Edges.thrown(call + "(4) when the lake is undone", Checks.INDEX, () -> asked.answer(x, 4));
+        Cases.thrown(call + "(4) when the lake is undone", Checks.INDEX, () -> asked.answer(x, 4));
     }
 
     private static void missingLakes() {
@@ -290,11 +290,11 @@ final class LakeEdges {
     }
 
     private static void topLayer(int promise, String call, OfLayer asked, int top, int lowest) {
-        Edges.quote(promise, "`layer`: the layer of the lake, 0 for the top one");
-        IceBells x = Edges.ice(-40, Edges.layer(4, -20), Edges.layer(20, -10));
+        Cases.quote(promise, "`layer`: the layer of the lake, 0 for the top one");
+        IceBells x = Cases.ice(-40, Cases.layer(4, -20), Cases.layer(20, -10));
         x.pass(1);
-        Edges.due(call + "(0, 0)", top, asked.answer(x, 0, 0));
-        Edges.due(call + "(0, 1)", lowest, asked.answer(x, 0, 1));
+        Cases.due(call + "(0, 0)", top, asked.answer(x, 0, 0));
+        Cases.due(call + "(0, 1)", lowest, asked.answer(x, 0, 1));
     }
 
     private static void topLayers() {
@@ -306,27 +306,27 @@ final class LakeEdges {
     }
 
     private static void missingLayer(int promise, String call, OfLayer asked) {
-        Edges.quote(promise, "Throws `IndexOutOfBoundsException` if there is no such lake or layer");
+        Cases.quote(promise, "Throws `IndexOutOfBoundsException` if there is no such lake or layer");
         IceBells none = new IceBells();
-        Edges.thrown(call + "(0, 0) without lakes", Checks.INDEX, () -> asked.answer(none, 0, 0));
-        IceBells x = Edges.lakes(400, 400);
-        Edges.thrown(call + "(0, 0) without ice", Checks.INDEX, () -> asked.answer(x, 0, 0));
+        Cases.thrown(call + "(0, 0) without lakes", Checks.INDEX, () -> asked.answer(none, 0, 0));
+        IceBells x = Cases.lakes(400, 400);
+        Cases.thrown(call + "(0, 0) without ice", Checks.INDEX, () -> asked.answer(x, 0, 0));
         x.freeze(0, 1, -1);
-        Edges.thrown(call + "(1, 0) beside a lake with ice", Checks.INDEX, () -> asked.answer(x, 1, 0));
-        Edges.thrown(call + "(2, 0) with 2 lakes", Checks.INDEX, () -> asked.answer(x, 2, 0));
+        Cases.thrown(call + "(1, 0) beside a lake with ice", Checks.INDEX, () -> asked.answer(x, 1, 0));
+        Cases.thrown(call + "(2, 0) with 2 lakes", Checks.INDEX, () -> asked.answer(x, 2, 0));
         for (int layers = 1; layers <= 8; layers++) {
             int last = layers - 1;
             int next = layers;
-            Edges.thrown(call + "(0, " + last + ") of " + layers + " layers", null, () -> asked.answer(x, 0, last));
-            Edges.thrown(call + "(0, " + next + ") of " + layers + " layers", Checks.INDEX,
+            Cases.thrown(call + "(0, " + last + ") of " + layers + " layers", null, () -> asked.answer(x, 0, last));
+            Cases.thrown(call + "(0, " + next + ") of " + layers + " layers", Checks.INDEX,
                     () -> asked.answer(x, 0, next));
             if (layers < 8) {
                 x.freeze(0, 2, -20);
             }
         }
         for (int n : new int[] {-1, -8, Integer.MIN_VALUE, Integer.MAX_VALUE}) {
-            Edges.thrown(call + "(0, " + n + ")", Checks.INDEX, () -> asked.answer(x, 0, n));
-            Edges.thrown(call + "(" + n + ", 0)", Checks.INDEX, () -> asked.answer(x, n, 0));
+            Cases.thrown(call + "(0, " + n + ")", Checks.INDEX, () -> asked.answer(x, 0, n));
+            Cases.thrown(call + "(" + n + ", 0)", Checks.INDEX, () -> asked.answer(x, n, 0));
         }
     }
 
@@ -339,42 +339,42 @@ final class LakeEdges {
     }
 
     private static void depthBelowTheTop() {
-        Edges.quote(12, "`centimetres`: the depth, from 0");
-        IceBells x = Edges.ice(0, Edges.layer(3, 0), Edges.layer(1, 0), Edges.layer(2, 0));
+        Cases.quote(12, "`centimetres`: the depth, from 0");
+        IceBells x = Cases.ice(0, Cases.layer(3, 0), Cases.layer(1, 0), Cases.layer(2, 0));
         int[] due = {0, 0, 0, 1, 2, 2};
         for (int depth = 0; depth < due.length; depth++) {
-            Edges.due("layerAt(0, " + depth + ")", due[depth], x.layerAt(0, depth));
+            Cases.due("layerAt(0, " + depth + ")", due[depth], x.layerAt(0, depth));
         }
     }
 
     private static void depthsWithoutIce() {
-        Edges.quote(12, NO_ICE_THERE);
-        IceBells bare = Edges.lakes(100);
-        Edges.thrown("layerAt(0, 0) without ice", Checks.NO_ELEMENT, () -> bare.layerAt(0, 0));
-        IceBells x = Edges.ice(1, Edges.layer(3, 0), Edges.layer(4, 0));
-        Edges.due("layerAt(0, 6) of 7 cm", 1, x.layerAt(0, 6));
+        Cases.quote(12, NO_ICE_THERE);
+        IceBells bare = Cases.lakes(100);
+        Cases.thrown("layerAt(0, 0) without ice", Checks.NO_ELEMENT, () -> bare.layerAt(0, 0));
+        IceBells x = Cases.ice(1, Cases.layer(3, 0), Cases.layer(4, 0));
+        Cases.due("layerAt(0, 6) of 7 cm", 1, x.layerAt(0, 6));
         for (int depth : new int[] {7, 8, -1, Integer.MIN_VALUE, Integer.MAX_VALUE}) {
-            Edges.thrown("layerAt(0, " + depth + ") of 7 cm", Checks.NO_ELEMENT, () -> x.layerAt(0, depth));
+            Cases.thrown("layerAt(0, " + depth + ") of 7 cm", Checks.NO_ELEMENT, () -> x.layerAt(0, depth));
         }
         x.pass(1);
-        Edges.thrown("layerAt(0, 6) of 6 cm", Checks.NO_ELEMENT, () -> x.layerAt(0, 6));
+        Cases.thrown("layerAt(0, 6) of 6 cm", Checks.NO_ELEMENT, () -> x.layerAt(0, 6));
         x.pass(2);
-        Edges.due("layerAt(0, 3) of 4 cm", 0, x.layerAt(0, 3));
+        Cases.due("layerAt(0, 3) of 4 cm", 0, x.layerAt(0, 3));
         // The 4 cm that are left have moved up: they must not be counted where they were before, too.
-        Edges.thrown("layerAt(0, 4) of 4 cm", Checks.NO_ELEMENT, () -> x.layerAt(0, 4));
+        Cases.thrown("layerAt(0, 4) of 4 cm", Checks.NO_ELEMENT, () -> x.layerAt(0, 4));
     }
 
     private static void depthsOfFullIce() {
-        Edges.quote(12, NO_ICE_THERE);
-        IceBells x = Edges.lakes(400);
+        Cases.quote(12, NO_ICE_THERE);
+        IceBells x = Cases.lakes(400);
         for (int i = 0; i < 8; i++) {
             x.freeze(0, 25, 0);
         }
-        Edges.due("layerAt(0, 24) of 200 cm", 0, x.layerAt(0, 24));
-        Edges.due("layerAt(0, 25) of 200 cm", 1, x.layerAt(0, 25));
-        Edges.due("layerAt(0, 174) of 200 cm", 6, x.layerAt(0, 174));
-        Edges.due("layerAt(0, 175) of 200 cm", 7, x.layerAt(0, 175));
-        Edges.due("layerAt(0, 199) of 200 cm", 7, x.layerAt(0, 199));
-        Edges.thrown("layerAt(0, 200) of 200 cm", Checks.NO_ELEMENT, () -> x.layerAt(0, 200));
+        Cases.due("layerAt(0, 24) of 200 cm", 0, x.layerAt(0, 24));
+        Cases.due("layerAt(0, 25) of 200 cm", 1, x.layerAt(0, 25));
+        Cases.due("layerAt(0, 174) of 200 cm", 6, x.layerAt(0, 174));
+        Cases.due("layerAt(0, 175) of 200 cm", 7, x.layerAt(0, 175));
+        Cases.due("layerAt(0, 199) of 200 cm", 7, x.layerAt(0, 199));
+        Cases.thrown("layerAt(0, 200) of 200 cm", Checks.NO_ELEMENT, () -> x.layerAt(0, 200));
     }
 }

@@ -1,34 +1,46 @@
 import java.nio.file.Path;
 
-/** What the tests of the boundary cases share: the sentence that a case goes by, and landscapes to begin with. */
-final class Edges {
-    private static final Checks CHECKS = new Checks("EdgesTest");
+/** What the tests of the document's sentences share: the sentence that a case goes by, and landscapes to begin with. */
+final class Cases {
     private static final Document DOCUMENT = new Document(Path.of("../shared/DOC.md"));
+    private static Checks checks = new Checks("");
     private static int promise = Document.TERMS;
     private static String sentence = "";
 
-    private Edges() {
+    private Cases() {
     }
 
-    /** A case begins with the sentence of the document that it would tell the breaking of; promise 0 is "Terms". */
-    static void quote(int section, String words) {
+    static void begin(String test) {
+        checks = new Checks(test);
+    }
+
+    /** A case begins with the sentences of the document that it would tell the breaking of; promise 0 is "Terms". */
+    static void quote(int section, String... sentences) {
         promise = section;
-        sentence = words;
-        due("DOC.md has the sentence", true, DOCUMENT.quote(section, words));
+        sentence = String.join(" ", sentences);
+        for (String words : sentences) {
+            due("DOC.md has the sentence", true, DOCUMENT.quote(section, words));
+        }
     }
 
     static void due(String call, Object want, Object got) {
-        CHECKS.due(promise, "(" + sentence + ") " + call, want, got);
+        checks.due(promise, "(" + sentence + ") " + call, want, got);
     }
 
     static void thrown(String call, Class<?> want, Checks.Call made) {
-        CHECKS.thrown(promise, "(" + sentence + ") " + call, want, made);
+        checks.thrown(promise, "(" + sentence + ") " + call, want, made);
     }
 
-    static void finish() {
-        CHECKS.due(Document.TERMS, "sentences that name a boundary case, and that no test goes by", "[]",
-                DOCUMENT.unquoted().toString());
-        CHECKS.finish();
+    static void finishBoundaries() {
+        checks.due(Document.TERMS, "sentences that name a boundary case, and that no test goes by", "[]",
+                DOCUMENT.unquotedBoundaries().toString());
+        checks.finish();
+    }
+
+    static void finishOthers() {
+        checks.due(Document.TERMS, "sentences of a promise that name no boundary case, and that no test goes by", "[]",
+                DOCUMENT.unquotedOthers().toString());
+        checks.finish();
     }
 
     static IceBells lakes(int... depths) {
